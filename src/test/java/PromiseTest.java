@@ -19,6 +19,8 @@ public final class PromiseTest {
         promise13RunNoneAndOne();
         promise13RunTwo();
         promise13RunOrder();
+        promise13RunOfThree();
+        promise13RunThatFindsNothing();
         promise14Edit();
         promise15Used();
         promise16Length();
@@ -27,6 +29,8 @@ public final class PromiseTest {
         promise19Literal();
         promise20Count();
         promise21Clear();
+        fullDesign();
+        fullPast();
         changesEndARun();
         throwingChangesNothing();
         checks.end();
@@ -365,6 +369,67 @@ public final class PromiseTest {
         dueEdit("an old literal, not the asked ones between", between, 0, 7, 6, 8);
     }
 
+    private static void promise13RunOfThree() {
+        LeastEdits x = withInputs(3);
+        x.old(2, 3);
+        x.old(2, 3);
+        x.old(2, 3);
+        x.asked(2, 4);
+        x.asked(14, 6);
+        x.output(12, 16);
+        checks.due("all of the three inputs", x.run(2), 2);
+        dueEdit("the second one of the first one", x, 0, 4, 2, 4);
+        dueEdit("the second one of the first one", x, 1, 6, 6, 8);
+        x.keep(4, true);
+        checks.due("without the first", x.run(2), 2);
+        dueEdit("without the first", x, 0, 5, 2, 4);
+        dueEdit("without the first", x, 1, 6, 6, 10);
+        x.keep(4, false);
+        x.keep(6, true);
+        checks.due("without the last", x.run(2), NONE);
+        LeastEdits neighbours = withInputs(1);
+        neighbours.old(2, 2);
+        neighbours.old(2, 2);
+        neighbours.old(2, 2);
+        neighbours.output(6, 0);
+        neighbours.output(8, 0);
+        checks.due("the last two", neighbours.run(2), 2);
+        dueEdit("the last two", neighbours, 0, 3, 0, 0);
+        dueEdit("the last two", neighbours, 1, 4, 0, 0);
+        neighbours.output(5, 1);
+        checks.due("three are needed", neighbours.run(2), NONE);
+    }
+
+    private static void promise13RunThatFindsNothing() {
+        LeastEdits x = withInputs(3);
+        x.old(2, 4);
+        x.old(2, 4);
+        x.output(10, 0);
+        checks.due("FALSE for one", x.run(1), 1);
+        dueEdit("FALSE for one", x, 0, 5, 0, 0);
+        x.asked(2, 4);
+        x.asked(12, 6);
+        x.output(8, 14);
+        checks.due("no AND of the inputs is that", x.run(2), NONE);
+        x.output(2, 4);
+        checks.due("an input never gets another", x.run(2), NONE);
+        LeastEdits itself = withInputs(4);
+        itself.old(2, 2);
+        itself.old(2, 4);
+        itself.asked(2, 4);
+        itself.asked(14, 6);
+        itself.asked(16, 8);
+        itself.output(12, 18);
+        checks.due("an AND is none of the nodes before it", itself.run(2), NONE);
+        LeastEdits bare = new LeastEdits();
+        bare.output(0, 1);
+        checks.due("no ANDs at all", bare.run(2), NONE);
+        bare.old(0, 0);
+        bare.output(2, 1);
+        bare.output(2, 0);
+        checks.due("one AND due two things", bare.run(2), NONE);
+    }
+
     private static void promise14Edit() {
         LeastEdits x = oneEditAway();
         checks.bounds("no such what, nothing run", () -> x.edit(0, 3));
@@ -432,6 +497,10 @@ public final class PromiseTest {
         single.run(1);
         checks.due("|dx| + |dy|", single.length(), 10);
         checks.due("the lesser of equal ones", single.used(0), 1);
+        single.place(4, -10, 9);
+        single.run(1);
+        checks.due("the first spare", single.used(0), 0);
+        checks.due("to the first spare", single.length(), 1);
     }
 
     private static void promise17Make() {
@@ -549,6 +618,19 @@ public final class PromiseTest {
         checks.due("nothing differs", x.differing(), 0);
         checks.bounds("no output", () -> x.witness(0));
         checks.bounds("no literal", () -> x.value(2, 0));
+        checks.bounds("no old AND to keep", () -> one(x.keep(4, true)));
+        checks.bounds("no old AND to place", () -> one(x.place(5, 0, 0)));
+        checks.bounds("no literals", () -> x.literal(4, 0));
+        checks.due("an empty run after clear", x.run(2), 0);
+        checks.due("without taking", x.length(), 0);
+        LeastEdits next = new LeastEdits();
+        next.old(0, 0);
+        next.keep(1, true);
+        next.output(2, 1);
+        next.clear();
+        checks.bounds("the next node's old AND is gone", () -> one(next.keep(1, false)));
+        checks.due("kept ones are gone", next.count(6), 0);
+        checks.due("outputs are gone", next.differing(), 0);
         checks.due("an input after clear", x.input(), 2);
         x.input();
         x.input();
@@ -557,6 +639,69 @@ public final class PromiseTest {
         checks.due("not kept after clear", x.keep(5, false), false);
         checks.due("at 0, 0 after clear", x.place(4, 0, 0), false);
         checks.due("a spare after clear", x.spare(0, 0), 0);
+    }
+
+    /** Old ANDs 12 .. 26 of input 2 and one of the others; asked 28 .. 74, more inputs in each. */
+    private static LeastEdits fullDesignDue(int due) {
+        LeastEdits x = withInputs(5);
+        for (int k = 0; k < 8; k++) {
+            x.old(2, 4 + 2 * (k % 4));
+        }
+        x.asked(2, 4);
+        for (int k = 1; k < 24; k++) {
+            x.asked(26 + 2 * k, 4 + 2 * (k % 4));
+        }
+        for (int k = 0; k < 4; k++) {
+            x.output(26, due);
+        }
+        return x;
+    }
+
+    private static void fullDesign() {
+        LeastEdits five = fullDesignDue(74);
+        checks.due("nodes", five.count(0), 38);
+        checks.due("kept ones", five.count(6), 0);
+        checks.due("the last literal where all inputs are 1", five.value(74, 31), 1);
+        checks.due("the last literal turned where one is 0", five.value(75, 30), 1);
+        checks.due("matched by none", five.matched(74), NONE);
+        checks.due("all outputs differ", five.differing(), 4);
+        checks.due("the first witness", five.witness(3), 17);
+        checks.due("two edits do not make it of five inputs", five.run(2), NONE);
+        LeastEdits four = fullDesignDue(32);
+        checks.due("two edits make it of four inputs", four.run(2), 2);
+        dueEdit("of four inputs", four, 0, 6, 4, 6);
+        dueEdit("of four inputs", four, 1, 13, 12, 16);
+        four.make();
+        checks.due("made right", four.differing(), 0);
+        checks.due("matched by the last old AND", four.matched(32), 26);
+        four.undo();
+        checks.due("undone", four.differing(), 4);
+        for (int node = 6; node <= 13; node++) {
+            four.keep(node, true);
+        }
+        checks.due("all kept", four.count(6), 8);
+        checks.due("none to edit", four.run(2), NONE);
+    }
+
+    private static void fullPast() {
+        LeastEdits x = withInputs(2);
+        x.old(2, 4);
+        x.old(2, 5);
+        for (int k = 1; k < 20; k++) {
+            x.run(0);
+            x.make();
+        }
+        x.output(6, 1);
+        x.output(8, 4);
+        x.run(2);
+        checks.due("the 20th making has two edits", x.make(), 2);
+        checks.due("nothing differs", x.differing(), 0);
+        for (int k = 20; k > 0; k--) {
+            checks.due("made and not undone", x.count(7), k);
+            checks.due("undone", x.undo(), true);
+            checks.due("all differ again", x.differing(), 2);
+        }
+        checks.due("nothing is left to undo", x.undo(), false);
     }
 
     private static void stillRun(String what, LeastEdits x) {
