@@ -438,8 +438,10 @@ public final class LeastEdits {
             return size - 1;
         }
 
+        /** Both literals turned, or neither, make no difference; only one of them turns it all. */
         int difference(int[] columns, int output) {
-            return column(columns, mine[output]) ^ column(columns, due[output]);
+            int turned = (mine[output] ^ due[output]) & 1;
+            return columns[mine[output] >> 1] ^ columns[due[output] >> 1] ^ -turned;
         }
 
         /** The assignments in which no output differs. */

@@ -40,40 +40,6 @@ public final class PromiseTest {
         return answer ? 1 : 0;
     }
 
-    private static LeastEdits withInputs(int inputs) {
-        LeastEdits x = new LeastEdits();
-        for (int k = 0; k < inputs; k++) {
-            x.input();
-        }
-        return x;
-    }
-
-    /** Inputs 2, 4, 6; old 8 = 2 & 4, old 10 = 8 & 6; asked 12 = 2 & 6; output 10 due 12. */
-    private static LeastEdits oneEditAway() {
-        LeastEdits x = withInputs(3);
-        x.old(2, 4);
-        x.old(8, 6);
-        x.asked(2, 6);
-        x.output(10, 12);
-        return x;
-    }
-
-    /** Inputs 2, 4; old 6 = 2 & 4, old 8 = 2 & 5; outputs 6 due FALSE's turned, 8 due 4. */
-    private static LeastEdits twoEditsAway() {
-        LeastEdits x = withInputs(2);
-        x.old(2, 4);
-        x.old(2, 5);
-        x.output(6, 1);
-        x.output(8, 4);
-        return x;
-    }
-
-    private static void dueEdit(String what, LeastEdits x, int k, int node, int first, int second) {
-        checks.due(what + ": node of edit " + k, x.edit(k, 0), node);
-        checks.due(what + ": first literal of edit " + k, x.edit(k, 1), first);
-        checks.due(what + ": second literal of edit " + k, x.edit(k, 2), second);
-    }
-
     private static void promise1NewObject() {
         LeastEdits x = new LeastEdits();
         checks.due("nodes of a new object", x.count(0), 1);
@@ -95,19 +61,19 @@ public final class PromiseTest {
         }
         checks.state("a sixth input", () -> x.input());
         checks.due("inputs", x.count(1), 5);
-        LeastEdits withOld = withInputs(1);
+        LeastEdits withOld = Designs.withInputs(1);
         withOld.old(2, 2);
         checks.state("an input after an old AND", () -> withOld.input());
-        LeastEdits withAsked = withInputs(1);
+        LeastEdits withAsked = Designs.withInputs(1);
         withAsked.asked(2, 2);
         checks.state("an input after an asked AND", () -> withAsked.input());
-        LeastEdits withOutput = withInputs(1);
+        LeastEdits withOutput = Designs.withInputs(1);
         withOutput.output(2, 0);
         checks.due("an input after an output", withOutput.input(), 4);
     }
 
     private static void promise3Old() {
-        LeastEdits x = withInputs(2);
+        LeastEdits x = Designs.withInputs(2);
         checks.due("first old AND", x.old(2, 4), 6);
         checks.due("asked AND between", x.asked(3, 0), 8);
         checks.due("old AND of an old one, FALSE too", x.old(7, 1), 10);
@@ -128,7 +94,7 @@ public final class PromiseTest {
     }
 
     private static void promise4Asked() {
-        LeastEdits x = withInputs(2);
+        LeastEdits x = Designs.withInputs(2);
         x.old(2, 4);
         checks.due("first asked AND", x.asked(5, 3), 8);
         checks.due("asked AND of an asked one", x.asked(9, 0), 10);
@@ -146,7 +112,7 @@ public final class PromiseTest {
     }
 
     private static void promise5Output() {
-        LeastEdits x = withInputs(2);
+        LeastEdits x = Designs.withInputs(2);
         x.old(2, 4);
         x.asked(2, 5);
         checks.bounds("output of no literal", () -> x.output(10, 2));
@@ -165,7 +131,7 @@ public final class PromiseTest {
     }
 
     private static void promise6Value() {
-        LeastEdits x = withInputs(5);
+        LeastEdits x = Designs.withInputs(5);
         x.old(2, 5);
         x.asked(6, 9);
         for (int s = 0; s < 32; s++) {
@@ -180,7 +146,7 @@ public final class PromiseTest {
         checks.due("all bits", x.value(10, -1), 1);
         checks.bounds("value of no literal", () -> x.value(16, 0));
         checks.bounds("value of a negative literal", () -> x.value(-1, 0));
-        LeastEdits few = withInputs(2);
+        LeastEdits few = Designs.withInputs(2);
         few.old(2, 4);
         checks.due("bits of inputs that there are not", few.value(6, 4 + 3), 1);
         checks.due("the same, not both", few.value(6, 28 + 1), 0);
@@ -188,7 +154,7 @@ public final class PromiseTest {
     }
 
     private static void promise7Differing() {
-        LeastEdits x = withInputs(2);
+        LeastEdits x = Designs.withInputs(2);
         x.old(2, 4);
         x.asked(4, 2);
         checks.due("no outputs", x.differing(), 0);
@@ -202,7 +168,7 @@ public final class PromiseTest {
     }
 
     private static void promise8Witness() {
-        LeastEdits x = withInputs(3);
+        LeastEdits x = Designs.withInputs(3);
         x.old(2, 4);
         x.asked(6, 2);
         x.output(6, 6);
@@ -215,7 +181,7 @@ public final class PromiseTest {
         checks.due("witness in each assignment", x.witness(3), 0);
         checks.bounds("witness of no output", () -> x.witness(4));
         checks.bounds("witness of a negative one", () -> x.witness(-1));
-        LeastEdits far = withInputs(5);
+        LeastEdits far = Designs.withInputs(5);
         far.old(2, 4);
         far.old(12, 6);
         far.old(14, 8);
@@ -228,7 +194,7 @@ public final class PromiseTest {
     }
 
     private static void promise9Matched() {
-        LeastEdits x = withInputs(2);
+        LeastEdits x = Designs.withInputs(2);
         x.asked(2, 3);
         x.asked(2, 5);
         x.old(2, 5);
@@ -247,7 +213,7 @@ public final class PromiseTest {
     }
 
     private static void promise10Keep() {
-        LeastEdits x = oneEditAway();
+        LeastEdits x = Designs.oneEditAway();
         checks.due("not kept before", x.keep(4, false), false);
         checks.due("kept", x.keep(4, true), true);
         checks.due("kept again", x.keep(4, true), false);
@@ -261,13 +227,13 @@ public final class PromiseTest {
         checks.bounds("a negative node", () -> one(x.keep(-1, false)));
         x.keep(5, true);
         checks.due("with the last one kept", x.run(2), 1);
-        dueEdit("with the last one kept", x, 0, 4, 1, 2);
+        checks.edit("with the last one kept", x, 0, 4, 1, 2);
         x.keep(4, true);
         checks.due("with all kept", x.run(2), NONE);
     }
 
     private static void promise11Place() {
-        LeastEdits x = oneEditAway();
+        LeastEdits x = Designs.oneEditAway();
         checks.due("the place at first", x.place(4, 0, 0), false);
         checks.due("another x", x.place(4, 1000, 0), true);
         checks.due("another y", x.place(4, 1000, -1000), true);
@@ -299,34 +265,34 @@ public final class PromiseTest {
     }
 
     private static void promise13RunNoneAndOne() {
-        LeastEdits x = oneEditAway();
+        LeastEdits x = Designs.oneEditAway();
         checks.argument("fewer than none", () -> x.run(-1));
         checks.argument("more than two", () -> x.run(3));
         checks.due("no edits are not enough", x.run(0), NONE);
         checks.due("one edit", x.run(1), 1);
-        dueEdit("one edit", x, 0, 4, 1, 2);
+        checks.edit("one edit", x, 0, 4, 1, 2);
         checks.due("no more than the least number", x.run(2), 1);
-        LeastEdits same = withInputs(1);
+        LeastEdits same = Designs.withInputs(1);
         same.old(2, 2);
         same.output(6 - 2, 2);
         for (int most = 0; most <= 2; most++) {
             checks.due("nothing differs, " + most + " at most", same.run(most), 0);
         }
-        LeastEdits never = withInputs(1);
+        LeastEdits never = Designs.withInputs(1);
         never.old(2, 2);
         never.output(2, 3);
         checks.due("an output of an input", never.run(2), NONE);
     }
 
     private static void promise13RunTwo() {
-        LeastEdits x = twoEditsAway();
+        LeastEdits x = Designs.twoEditsAway();
         checks.due("one is not enough", x.run(1), NONE);
         checks.due("two edits", x.run(2), 2);
-        dueEdit("two edits", x, 0, 3, 1, 1);
-        dueEdit("two edits", x, 1, 4, 1, 4);
+        checks.edit("two edits", x, 0, 3, 1, 1);
+        checks.edit("two edits", x, 1, 4, 1, 4);
         x.keep(3, true);
         checks.due("one of the two is kept", x.run(2), NONE);
-        LeastEdits xor = withInputs(2);
+        LeastEdits xor = Designs.withInputs(2);
         xor.old(2, 2);
         xor.old(4, 4);
         xor.old(7, 9);
@@ -335,42 +301,42 @@ public final class PromiseTest {
         xor.asked(13, 15);
         xor.output(11, 17);
         checks.due("exclusive or", xor.run(2), 2);
-        dueEdit("exclusive or", xor, 0, 3, 2, 5);
-        dueEdit("exclusive or", xor, 1, 4, 3, 4);
+        checks.edit("exclusive or", xor, 0, 3, 2, 5);
+        checks.edit("exclusive or", xor, 1, 4, 3, 4);
     }
 
     /** The edits' ANDs come before their literals, a lesser AND before lesser literals. */
     private static void promise13RunOrder() {
-        LeastEdits x = withInputs(1);
+        LeastEdits x = Designs.withInputs(1);
         x.old(2, 2);
         x.old(2, 2);
         x.output(4, 3);
         x.output(6, 3);
         checks.due("both are due one thing", x.run(2), 2);
-        dueEdit("the least literals", x, 0, 2, 1, 3);
-        dueEdit("the least literals", x, 1, 3, 1, 3);
-        LeastEdits chain = withInputs(2);
+        checks.edit("the least literals", x, 0, 2, 1, 3);
+        checks.edit("the least literals", x, 1, 3, 1, 3);
+        LeastEdits chain = Designs.withInputs(2);
         chain.old(2, 4);
         chain.asked(2, 5);
         chain.old(6, 6);
         chain.output(10, 8);
         checks.due("the lesser AND is edited", chain.run(1), 1);
-        dueEdit("the lesser AND", chain, 0, 3, 2, 5);
+        checks.edit("the lesser AND", chain, 0, 3, 2, 5);
         chain.keep(3, true);
         checks.due("the greater AND is edited", chain.run(1), 1);
-        dueEdit("the greater AND", chain, 0, 5, 2, 5);
-        LeastEdits between = withInputs(3);
+        checks.edit("the greater AND", chain, 0, 5, 2, 5);
+        LeastEdits between = Designs.withInputs(3);
         between.old(2, 4);
         between.asked(2, 4);
         between.asked(10, 6);
         between.old(8, 8);
         between.output(14, 12);
         checks.due("one edit", between.run(1), 1);
-        dueEdit("an old literal, not the asked ones between", between, 0, 7, 6, 8);
+        checks.edit("an old literal, not the asked ones between", between, 0, 7, 6, 8);
     }
 
     private static void promise13RunOfThree() {
-        LeastEdits x = withInputs(3);
+        LeastEdits x = Designs.withInputs(3);
         x.old(2, 3);
         x.old(2, 3);
         x.old(2, 3);
@@ -378,42 +344,42 @@ public final class PromiseTest {
         x.asked(14, 6);
         x.output(12, 16);
         checks.due("all of the three inputs", x.run(2), 2);
-        dueEdit("the second one of the first one", x, 0, 4, 2, 4);
-        dueEdit("the second one of the first one", x, 1, 6, 6, 8);
+        checks.edit("the second one of the first one", x, 0, 4, 2, 4);
+        checks.edit("the second one of the first one", x, 1, 6, 6, 8);
         x.keep(4, true);
         checks.due("without the first", x.run(2), 2);
-        dueEdit("without the first", x, 0, 5, 2, 4);
-        dueEdit("without the first", x, 1, 6, 6, 10);
+        checks.edit("without the first", x, 0, 5, 2, 4);
+        checks.edit("without the first", x, 1, 6, 6, 10);
         x.keep(4, false);
         x.keep(6, true);
         checks.due("without the last", x.run(2), NONE);
-        LeastEdits neighbours = withInputs(1);
+        LeastEdits neighbours = Designs.withInputs(1);
         neighbours.old(2, 2);
         neighbours.old(2, 2);
         neighbours.old(2, 2);
         neighbours.output(6, 0);
         neighbours.output(8, 0);
         checks.due("the last two", neighbours.run(2), 2);
-        dueEdit("the last two", neighbours, 0, 3, 0, 0);
-        dueEdit("the last two", neighbours, 1, 4, 0, 0);
+        checks.edit("the last two", neighbours, 0, 3, 0, 0);
+        checks.edit("the last two", neighbours, 1, 4, 0, 0);
         neighbours.output(5, 1);
         checks.due("three are needed", neighbours.run(2), NONE);
     }
 
     private static void promise13RunThatFindsNothing() {
-        LeastEdits x = withInputs(3);
+        LeastEdits x = Designs.withInputs(3);
         x.old(2, 4);
         x.old(2, 4);
         x.output(10, 0);
         checks.due("FALSE for one", x.run(1), 1);
-        dueEdit("FALSE for one", x, 0, 5, 0, 0);
+        checks.edit("FALSE for one", x, 0, 5, 0, 0);
         x.asked(2, 4);
         x.asked(12, 6);
         x.output(8, 14);
         checks.due("no AND of the inputs is that", x.run(2), NONE);
         x.output(2, 4);
         checks.due("an input never gets another", x.run(2), NONE);
-        LeastEdits itself = withInputs(4);
+        LeastEdits itself = Designs.withInputs(4);
         itself.old(2, 2);
         itself.old(2, 4);
         itself.asked(2, 4);
@@ -431,11 +397,11 @@ public final class PromiseTest {
     }
 
     private static void promise14Edit() {
-        LeastEdits x = oneEditAway();
+        LeastEdits x = Designs.oneEditAway();
         checks.bounds("no such what, nothing run", () -> x.edit(0, 3));
         checks.state("nothing run", () -> x.edit(9, 0));
         x.run(2);
-        dueEdit("after a run", x, 0, 4, 1, 2);
+        checks.edit("after a run", x, 0, 4, 1, 2);
         checks.bounds("no such what", () -> x.edit(0, 3));
         checks.bounds("a negative what", () -> x.edit(0, -1));
         checks.bounds("no such edit", () -> x.edit(1, 0));
@@ -445,7 +411,7 @@ public final class PromiseTest {
     }
 
     private static void promise15Used() {
-        LeastEdits x = twoEditsAway();
+        LeastEdits x = Designs.twoEditsAway();
         checks.state("nothing run", () -> x.used(9));
         x.run(2);
         checks.due("no spares", x.used(0), NONE);
@@ -472,7 +438,7 @@ public final class PromiseTest {
     }
 
     private static void promise16Length() {
-        LeastEdits x = twoEditsAway();
+        LeastEdits x = Designs.twoEditsAway();
         checks.state("nothing run", () -> x.length());
         x.run(2);
         checks.due("no spares", x.length(), NONE);
@@ -489,7 +455,7 @@ public final class PromiseTest {
         LeastEdits none = new LeastEdits();
         none.run(0);
         checks.due("no edits, no spares", none.length(), 0);
-        LeastEdits single = oneEditAway();
+        LeastEdits single = Designs.oneEditAway();
         single.place(4, 3, -4);
         single.spare(-10, 10);
         single.spare(-3, 0);
@@ -504,7 +470,7 @@ public final class PromiseTest {
     }
 
     private static void promise17Make() {
-        LeastEdits x = twoEditsAway();
+        LeastEdits x = Designs.twoEditsAway();
         checks.state("nothing run", () -> x.make());
         x.run(1);
         checks.state("the run found nothing", () -> x.make());
@@ -528,7 +494,7 @@ public final class PromiseTest {
     }
 
     private static void promise18Undo() {
-        LeastEdits x = twoEditsAway();
+        LeastEdits x = Designs.twoEditsAway();
         checks.due("nothing was made", x.undo(), false);
         x.run(2);
         x.make();
@@ -547,7 +513,7 @@ public final class PromiseTest {
         checks.due("an AND of them", x.value(10, 0), 1);
         checks.due("they differ again", x.differing(), 2);
         checks.due("nothing is left", x.undo(), false);
-        LeastEdits twice = oneEditAway();
+        LeastEdits twice = Designs.oneEditAway();
         twice.run(1);
         twice.make();
         twice.output(8, 0);
@@ -562,7 +528,7 @@ public final class PromiseTest {
     }
 
     private static void promise19Literal() {
-        LeastEdits x = withInputs(2);
+        LeastEdits x = Designs.withInputs(2);
         x.old(4, 3);
         x.asked(2, 4);
         x.output(6, 8);
@@ -582,7 +548,7 @@ public final class PromiseTest {
     }
 
     private static void promise20Count() {
-        LeastEdits x = oneEditAway();
+        LeastEdits x = Designs.oneEditAway();
         x.asked(2, 2);
         x.asked(2, 2);
         x.output(2, 2);
@@ -601,7 +567,7 @@ public final class PromiseTest {
     }
 
     private static void promise21Clear() {
-        LeastEdits x = oneEditAway();
+        LeastEdits x = Designs.oneEditAway();
         x.keep(5, true);
         x.place(4, 5, 5);
         x.spare(1, 1);
@@ -643,7 +609,7 @@ public final class PromiseTest {
 
     /** Old ANDs 12 .. 26 of input 2 and one of the others; asked 28 .. 74, more inputs in each. */
     private static LeastEdits fullDesignDue(int due) {
-        LeastEdits x = withInputs(5);
+        LeastEdits x = Designs.withInputs(5);
         for (int k = 0; k < 8; k++) {
             x.old(2, 4 + 2 * (k % 4));
         }
@@ -669,8 +635,8 @@ public final class PromiseTest {
         checks.due("two edits do not make it of five inputs", five.run(2), NONE);
         LeastEdits four = fullDesignDue(32);
         checks.due("two edits make it of four inputs", four.run(2), 2);
-        dueEdit("of four inputs", four, 0, 6, 4, 6);
-        dueEdit("of four inputs", four, 1, 13, 12, 16);
+        checks.edit("of four inputs", four, 0, 6, 4, 6);
+        checks.edit("of four inputs", four, 1, 13, 12, 16);
         four.make();
         checks.due("made right", four.differing(), 0);
         checks.due("matched by the last old AND", four.matched(32), 26);
@@ -684,7 +650,7 @@ public final class PromiseTest {
     }
 
     private static void fullPast() {
-        LeastEdits x = withInputs(2);
+        LeastEdits x = Designs.withInputs(2);
         x.old(2, 4);
         x.old(2, 5);
         for (int k = 1; k < 20; k++) {
@@ -752,7 +718,7 @@ public final class PromiseTest {
     }
 
     private static void throwingChangesNothing() {
-        LeastEdits x = withInputs(1);
+        LeastEdits x = Designs.withInputs(1);
         x.old(2, 2);
         x.asked(2, 2);
         x.run(0);
