@@ -6,6 +6,7 @@ import java.util.Random;
 public final class ModelTest {
     private static final int OBJECTS = 600;
     private static final int CALLS = 220;
+    private static final int PAIRS = 3000;
 
     private static final class Step {
         final String name;
@@ -37,6 +38,9 @@ public final class ModelTest {
         for (int seed = 1; seed <= OBJECTS; seed++) {
             runOne(seed);
         }
+        for (int seed = 1; seed <= PAIRS; seed++) {
+            runPairAmongKept(seed);
+        }
         System.out.println("runs that found nothing, 0, 1, 2 edits: " + runsFound[0] + ", "
             + runsFound[1] + ", " + runsFound[2] + ", " + runsFound[3]);
         for (int edits = 0; edits < 4; edits++) {
@@ -52,17 +56,75 @@ public final class ModelTest {
         List<Step> steps = new ArrayList<>(design(random, model.count(0)));
         for (int i = 0; i < CALLS; i++) {
             Step step = i < steps.size() ? steps.get(i) : chosen(random, model);
-            String got = answered(real, step);
-            String want = answered(model, step);
-            if (step.name.equals("run") && !want.startsWith("throws")) {
-                runsFound[Integer.parseInt(want) + 1]++;
-            }
-            checks.due("seed " + seed + ", call " + i + ", " + step + ": " + got + " for " + want,
-                got.equals(want), true);
-            if (!got.equals(want)) {
+            if (!answersAlike("seed " + seed + ", call " + i, real, model, step)) {
                 return;
             }
         }
+    }
+
+    private static boolean answersAlike(String where, LeastEdits real, PlainModel model, Step step) {
+        String got = answered(real, step);
+        String want = answered(model, step);
+        if (step.name.equals("run") && !want.startsWith("throws")) {
+            runsFound[Integer.parseInt(want) + 1]++;
+        }
+        boolean alike = got.equals(want);
+        checks.due(where + ", " + step + ": " + got + " for " + want, alike, true);
+        return alike;
+    }
+
+    /** Two ANDs that may be edited and six kept ones after them, which make them matter together. */
+    private static void runPairAmongKept(int seed) {
+        Random random = new Random(-seed);
+        LeastEdits real = new LeastEdits();
+        PlainModel model = new PlainModel();
+        for (Step step : pairAmongKept(random)) {
+            if (!answersAlike("pair " + seed, real, model, step)) {
+                return;
+            }
+        }
+    }
+
+    private static List<Step> pairAmongKept(Random random) {
+        List<Step> steps = new ArrayList<>();
+        int inputs = 1 + random.nextInt(3);
+        for (int k = 0; k < inputs; k++) {
+            steps.add(new Step("input"));
+        }
+        int firstOld = 1 + inputs;
+        int firstAsked = firstOld + 8;
+        List<Step> due = new ArrayList<>();
+        for (int k = 0; k < 8; k++) {
+            int literals = 2 * (firstOld + k);
+            // Late ANDs look mostly at the pair and at what follows it.
+            int least = k < 2 ? 0 : 2 * random.nextInt(firstOld + 1);
+            int a = least + random.nextInt(literals - least);
+            int b = least + random.nextInt(literals - least);
+            steps.add(new Step("old", a, b));
+            due.add(k < 2 ? new Step("asked", random.nextInt(2 * firstOld), random.nextInt(2 * firstOld))
+                : new Step("asked", asAsked(a, firstOld), asAsked(b, firstOld)));
+        }
+        steps.addAll(due);
+        for (int k = 2; k < 8; k++) {
+            steps.add(new Step("keep", firstOld + k, 1));
+        }
+        for (int k = 1 + random.nextInt(4); k > 0; k--) {
+            int of = 2 + random.nextInt(6);
+            steps.add(new Step("output", 2 * (firstOld + of), 2 * (firstAsked + of)));
+        }
+        steps.add(new Step("run", 2));
+        for (int k = 0; k < 2; k++) {
+            for (int what = 0; what < 3; what++) {
+                steps.add(new Step("edit", k, what));
+            }
+        }
+        steps.add(new Step("make"));
+        steps.add(new Step("differing"));
+        return steps;
+    }
+
+    private static int asAsked(int literal, int firstOld) {
+        return literal < 2 * firstOld ? literal : literal + 16;
     }
 
     /** An old design, and as what is asked a copy of it with up to three ANDs made other ones. */

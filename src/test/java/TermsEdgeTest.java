@@ -20,6 +20,8 @@ public final class TermsEdgeTest {
         editsAreOfAndsNotKept();
         setsAreForDifferentAnds();
         setsAreRightForAllOutputs();
+        setsAreRightWhereOneDoesNotMatter();
+        setsAreRightWhereTwoMatterTogether();
         runsOfTheLeastNumber();
         firstByTheFirstAnd();
         firstByTheSecondAnd();
@@ -398,6 +400,65 @@ public final class TermsEdgeTest {
         right.output(8, 2);
         checks.due("the first output stays right", right.run(2), 1);
         checks.edit("the first output stays right", right, 0, 4, 1, 2);
+    }
+
+    /** Inputs 2, 4; old 6 and 8, which matter in output 1 only where input 4 is 1. */
+    private static LeastEdits maskedByAnInput() {
+        LeastEdits x = Designs.withInputs(2);
+        x.old(2, 2);
+        x.old(2, 2);
+        x.old(8, 4);
+        x.asked(3, 4);
+        x.output(10, 12);
+        return x;
+    }
+
+    private static void setsAreRightWhereOneDoesNotMatter() {
+        checks.sentence("It is RIGHT if no output differs with it"
+            + " (in some assignments one edit alone tells it)");
+        LeastEdits zero = maskedByAnInput();
+        zero.keep(5, true);
+        zero.output(6, 4);
+        checks.due("the first AND is 0 there", zero.run(2), 2);
+        checks.edit("the first AND is 0 there", zero, 0, 3, 1, 4);
+        checks.edit("the first AND is 0 there", zero, 1, 4, 1, 3);
+        LeastEdits one = maskedByAnInput();
+        one.keep(5, true);
+        one.output(6, 5);
+        checks.due("the first AND is 1 there", one.run(2), 2);
+        checks.edit("the first AND is 1 there", one, 0, 3, 1, 5);
+        checks.edit("the first AND is 1 there", one, 1, 4, 1, 3);
+    }
+
+    private static void setsAreRightWhereTwoMatterTogether() {
+        checks.sentence("It is RIGHT if no output differs with it"
+            + " (in some assignments the two edits tell it only together)");
+        // Old 6 and 8 are due to be unlike; where input 4 is 1, old 6 is due to be input 2 turned.
+        LeastEdits unlike = Designs.withInputs(2);
+        unlike.old(2, 2);
+        unlike.old(4, 4);
+        unlike.old(6, 9);
+        unlike.old(7, 8);
+        unlike.old(11, 13);
+        unlike.old(6, 4);
+        unlike.output(15, 1);
+        unlike.output(16, unlike.asked(3, 4));
+        checks.due("unlike", unlike.run(2), 2);
+        checks.edit("unlike", unlike, 0, 3, 1, 3);
+        checks.edit("unlike", unlike, 1, 4, 1, 2);
+        // The same with old 6 and 8 due to be alike.
+        LeastEdits alike = Designs.withInputs(2);
+        alike.old(2, 2);
+        alike.old(4, 4);
+        alike.old(6, 9);
+        alike.old(7, 8);
+        alike.old(11, 13);
+        alike.old(6, 4);
+        alike.output(14, 1);
+        alike.output(16, alike.asked(3, 4));
+        checks.due("alike", alike.run(2), 2);
+        checks.edit("alike", alike, 0, 3, 1, 3);
+        checks.edit("alike", alike, 1, 4, 1, 3);
     }
 
     private static void runsOfTheLeastNumber() {
